@@ -929,11 +929,11 @@ public final class CableNames {
         }
 
         private int readByte(Packet packet) {
-            int value = packet.at(place);
-            if (value == NONE) {
+            if (place >= packet.size) {
                 isBad = true;
                 return 0;
             }
+            int value = packet.bytes[place] & 255;
             place++;
             return value;
         }
@@ -1091,7 +1091,7 @@ public final class CableNames {
         }
 
         boolean isKnownTo(Question question, long now) {
-            return 2 * (ends - now) > life && isOf(question.sort, question.word);
+            return sort == question.sort && 2 * (ends - now) > life && word.like(question.word);
         }
 
         int view(int what, long now) {

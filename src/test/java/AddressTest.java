@@ -12,6 +12,7 @@ final class AddressTest {
         proberYieldsToTell();
         twoHostsWithOneAddress();
         offForgets();
+        onBeginsAnew();
         offPolitely();
         holdersCounts();
         CHECK.done();
@@ -199,6 +200,53 @@ final class AddressTest {
         x.go(0);
         CHECK.same("4: it loses none", x.count(4), 0);
         CHECK.same("4: it hears", x.count(3), 1);
+    }
+
+    /** What a host had under way when it went off does not go on when it comes on. */
+    private static void onBeginsAnew() {
+        CableNames x = new CableNames();
+        x.on(0, 5);
+        x.go(5000);
+        int[] rival = packet(2, 5 * 257, 9);
+        Check.give(x, 0, rival);
+        Check.claim(x, 0, "n");
+        Check.give(x, 0, Check.answer(Check.recordOfName(0, 9, "n", 1)));
+        CHECK.named("3.: renamed", x, 0, "n-2");
+        Check.ask(x, 0, 1, "q");
+        Check.give(x, 0, Check.bytes(4, 1, 1, 'q', 0));
+        CHECK.same("4.: saved", x.look(0, 10), 1);
+        x.go(5000);
+        Check.service(x, 0, "t", 1);
+        Check.give(x, 0, Check.bytes(4, 2, 1, 't', 0));
+        Check.give(x, 0, Check.answer(Check.recordOfName(0, 9, "n-2", 1)));
+        CHECK.same("3.: it probes its name", x.look(0, 4), 2);
+        x.off(0, false);
+        int probes = x.count(7);
+        int answers = x.count(9);
+        x.on(0, 5);
+        CHECK.same("4: nothing saved", x.look(0, 10), 0);
+        x.go(1000);
+        CHECK.same("4: the name's probes ended", x.count(7), probes);
+        CHECK.same("4: the reply, too", x.count(9), answers);
+        Check.give(x, 0, rival);
+        CHECK.same("4: it never defended yet", x.look(0, 2), 5 * 257);
+        Check.claim(x, 0, "m");
+        Check.give(x, 0, Check.answer(Check.recordOfName(0, 9, "m", 1)));
+        CHECK.named("4: its number is 2 again", x, 0, "m-2");
+        x.off(0, false);
+        x.on(0, 5);
+        x.go(2000);
+        Check.claim(x, 0, "k");
+        Check.service(x, 0, "t", 1);
+        x.go(5000);
+        answers = x.count(9);
+        Check.give(x, 0, Check.bytes(4, 2, 1, 't', 0));
+        x.off(0, false);
+        x.on(0, 5);
+        Check.claim(x, 0, "k");
+        Check.service(x, 0, "t", 1);
+        x.go(5000);
+        CHECK.same("4: two tellings alone", x.count(9), answers + 2);
     }
 
     private static void offPolitely() {

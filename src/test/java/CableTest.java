@@ -21,6 +21,7 @@ final class CableTest {
         countTells();
         sentTells();
         longRunEnds();
+        moreThanTheQueueHolds();
         CHECK.done();
     }
 
@@ -201,7 +202,7 @@ final class CableTest {
         CHECK.yes("1.: the others", x.count(3) > 0);
     }
 
-    /** Ids 1 and 300: due 31 and 100 from now for the address, 13 and 150 for the name. */
+    /** Ids 1 and 300: due 31 and 100 from now for the address, 13 for the name; id 60 has its name's at 30. */
     private static void joinTellsAgain() {
         CableNames x = new CableNames();
         x.on(0, 1);
@@ -238,6 +239,16 @@ final class CableTest {
         CHECK.same("12: ahead of its time", y.count(6), 2);
         y.go(5000);
         CHECK.same("12: not twice", y.count(6), 2);
+        CableNames w = new CableNames();
+        w.on(0, 60);
+        Check.claim(w, 0, "n");
+        w.go(10000);
+        answers = w.count(9);
+        w.join();
+        w.go(29);
+        CHECK.same("12: 780 modulo 250 is 30", w.count(9), answers);
+        w.go(1);
+        CHECK.same("12: it tells", w.count(9), answers + 1);
         CableNames z = new CableNames();
         z.on(0, 1);
         z.go(40);
@@ -395,6 +406,21 @@ final class CableTest {
         CHECK.same("22: 200", x.sent(200), -1);
         x.off(0, false);
         CHECK.same("22: it stays the latest", x.sent(0), 1);
+    }
+
+    /** Far beyond 512 calls any answer is right, but none may be the machine's own exception. */
+    private static void moreThanTheQueueHolds() {
+        CableNames x = new CableNames();
+        x.on(0, 1);
+        x.on(1, 2);
+        x.go(5000);
+        for (int k = 0; k < 5000; k++) {
+            Check.give(x, 0, Check.bytes(1, 1, 1, 0, 9));
+        }
+        CHECK.sent("14: it answers", x, 2, 1, 1, 0, 1);
+        CHECK.same("10: go ends", x.go(20000), 25000);
+        Check.give(x, 0, Check.bytes(1, 1, 1, 0, 9));
+        CHECK.same("10: go ends again", x.go(1), 25001);
     }
 
     /** 512 calls of the longest go with eight hosts that conflict, ask and keep much come to their end. */

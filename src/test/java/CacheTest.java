@@ -94,6 +94,12 @@ final class CacheTest {
         CHECK.same("5.: letters are alike", x.look(0, 8), 1);
         Check.give(x, 0, Check.answer(Check.recordOfType(0, 9000, "t", "n", 2)));
         CHECK.same("5.: another port", x.look(0, 8), 2);
+        CableNames y = host();
+        Check.give(y, 0, Check.answer(Check.recordOfName(0, 9000, "abcdefghijklm", 1),
+            Check.recordOfName(0, 9000, "ABCDEFGHIJKLM", 1), Check.recordOfName(0, 9000, "nopqrstuvwxyz", 1),
+            Check.recordOfName(0, 9000, "NOPQRSTUVWXYZ", 1), Check.recordOfName(0, 9000, "0123456789-", 1),
+            Check.recordOfName(0, 9000, "0123456780-", 1)));
+        CHECK.same("5.: all letters, no digits", y.look(0, 8), 4);
         Check.give(x, 0, Check.answer(Check.recordOfType(0, 9000, "t", "m", 1)));
         CHECK.same("5.: another name", x.look(0, 8), 3);
         Check.give(x, 0, Check.answer(Check.recordOfType(0, 9000, "u", "n", 1)));
@@ -104,6 +110,9 @@ final class CacheTest {
         CHECK.same("5.: another address", x.look(0, 8), 6);
         Check.give(x, 0, Check.answer(Check.recordOfType(0, 9000, "t-", "n", 1)));
         CHECK.same("5.: a longer word", x.look(0, 8), 7);
+        Check.give(x, 0, Check.answer(Check.recordOfType(0, 9000, "t", "other", 1)));
+        Check.give(x, 0, told(0, 9000, "t", 1));
+        CHECK.same("5.: the address is known, whatever was read ahead of it", x.look(0, 8), 8);
     }
 
     private static void lifeZero() {

@@ -184,7 +184,9 @@ final class NameTest {
         CHECK.sent("3.: the new name", x, nprobe("Ab-2", 257, 1));
         Check.give(x, 0, rival("Ab", 258));
         CHECK.named("3.: that isn't its name any more", x, 0, "Ab-2");
-        Check.give(x, 0, rival("AB-2", 258));
+        Check.give(x, 0, Check.answer(Check.recordOfName(1, 1, "z", 258)));
+        CHECK.named("3.: nor that", x, 0, "Ab-2");
+        Check.give(x, 0, Check.answer(Check.recordOfName(1, 1, "AB-2", 258)));
         CHECK.named("3.: from its wish again", x, 0, "Ab-3");
         Check.give(x, 0, Check.answer(Check.recordOfName(0, 9, "ab-3", 1), Check.recordOfName(0, 9, "ab-4", 1)));
         CHECK.named("3.: one record behind the other", x, 0, "Ab-5");

@@ -137,6 +137,21 @@ final class PacketTest {
         good("but one ahead of it", ahead, fourth, b(1, 0, 0, 0, 0, 9, 128 + 8), b(0, 5));
         good("and the highest one", ahead, fourth, b(1, 0, 0, 0, 0, 9, 128 + 104), b(0, 5));
 
+        // Sixteen words in one packet: the fifteenth stands at 92, and may be led back to.
+        int[] many = b(5, 8);
+        for (int k = 0; k < 7; k++) {
+            many = Check.join(many, Check.recordOfType(0, 9, "" + k, "" + (char) ('a' + k), k));
+        }
+        good("the fifteenth word", many, b(2, 0, 0, 0, 0, 9, 1, 'z', 128 + 92, 0, 1));
+        good("the fourteenth word", many, b(2, 0, 0, 0, 0, 9, 1, 'z', 128 + 82, 0, 1));
+        bad("none", many, b(2, 0, 0, 0, 0, 9, 1, 'z', 128 + 83, 0, 1));
+
+        CableNames y = new CableNames();
+        y.on(0, 1);
+        CHECK.same("6.: a word at 8", Check.give(y, 0, Check.answer(Check.recordOfName(0, 9, "abc", 1))), 0);
+        CHECK.same("6.: in another packet it is none", Check.give(y, 0, b(4, 1, 1, 'a', 2, 9, 3, 9, 3)), 0);
+        CHECK.same("6.: so it can't be led back to", Check.give(y, 0, b(4, 2, 1, 'a', 2, 130, 0, 1, 136, 0, 1)), 1);
+
         CableNames x = new CableNames();
         x.on(0, 1);
         Check.give(x, 0, b(5, 2, 2, 0, 0, 0, 0, 9, 3, 'a', 'B', 'c', 128 + 8, 0, 7, 1, 0, 0, 0, 0, 9, 128 + 8, 0, 5));

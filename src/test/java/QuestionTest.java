@@ -125,8 +125,10 @@ final class QuestionTest {
         for (int life : lives) {
             CableNames x = new CableNames();
             x.on(0, 1);
-            Check.give(x, 0, Check.answer(Check.recordOfName(0, life, "W", 770), Check.recordOfName(0, life, "v", 5),
-                Check.recordOfType(0, life, "w", "n", 6)));
+            Check.give(x, 0, Check.answer(Check.recordOfName(0, life, "v", 5), Check.recordOfType(0, life, "w", "n", 6),
+                Check.recordOfName(0, 1600, "w", 7), Check.recordOfName(0, life, "W", 770)));
+            // Of this one too little is left at 1031; at 31 it is gone already.
+            Check.give(x, 0, Check.answer(Check.recordOfName(0, life < 2000 ? 30 : 1600, "w", 7)));
             Check.ask(x, 0, 1, "w");
             x.go(life < 2000 ? 31 : 1031);
             if (life % 2 == 0) {
@@ -325,6 +327,24 @@ final class QuestionTest {
             x.go(1);
             CHECK.same("4.: one after the other", x.count(9), told + 4 - k);
             CHECK.same("4.: in the order in which they came", x.sent(10), '0' + k);
+        }
+        for (int round = 0; round < 3; round++) {
+            told = x.count(9);
+            Check.give(x, 0, asked(2, "t0"));
+            x.go(20);
+            Check.give(x, 0, asked(2, "t1"));
+            Check.give(x, 0, asked(2, "t2"));
+            x.go(14);
+            CHECK.same("4.: the first one again", x.count(9), told + 1);
+            CHECK.same("4.: its word", x.sent(10), '0');
+            Check.give(x, 0, asked(2, "t3"));
+            Check.give(x, 0, asked(2, "t0"));
+            x.go(20);
+            CHECK.same("4.: then two", x.count(9), told + 3);
+            CHECK.same("4.: the word of the last one", x.sent(10), '2');
+            x.go(14);
+            CHECK.same("4.: then the others", x.count(9), told + 5);
+            CHECK.same("4.: the word of the very last", x.sent(10), '0');
         }
     }
 
