@@ -1,3 +1,5 @@
+import java.util.List;
+
 /** What the tests share: answers are compared, words and packets are put on the tape. */
 final class Check {
     private final String test;
@@ -30,6 +32,22 @@ final class Check {
             same(what + ", byte " + k, x.sent(k), due[k]);
         }
         same(what + ", behind its bytes", x.sent(due.length), CableNames.NONE);
+    }
+
+    /** All that can be seen of the one is what can be seen of the other. */
+    void alike(String what, CableNames x, CableNames y) {
+        List<String> got = Seen.of(x);
+        List<String> due = Seen.of(y);
+        compared++;
+        if (!got.equals(due)) {
+            wrong++;
+            int k = 0;
+            while (k < got.size() && k < due.size() && got.get(k).equals(due.get(k))) {
+                k++;
+            }
+            System.out.println(test + ": " + what + ": " + (k < got.size() ? got.get(k) : "nothing more")
+                + ", due is " + (k < due.size() ? due.get(k) : "nothing more"));
+        }
     }
 
     /** Ends the test: the exit code says whether every answer was as due. */
