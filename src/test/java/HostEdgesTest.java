@@ -7,6 +7,7 @@ final class HostEdgesTest {
         dueNowOrLater();
         heardByAllButSomeHosts();
         heardOnce();
+        firstSentFirstHeard();
         heardFromHostNoughtOn();
         partOfTheSenderThen();
         offHostsDoNothing();
@@ -122,6 +123,24 @@ final class HostEdgesTest {
             CHECK.same("1.: each is heard once", x.count(3), heard);
             x.go(1);
             CHECK.same("1.: in its millisecond", x.count(3), heard);
+        }
+    }
+
+    /** Both tell their addresses into the queue; the order of the new host's entries is that of the packets. */
+    private static void firstSentFirstHeard() {
+        for (int first = 0; first < 2; first++) {
+            CableNames x = new CableNames();
+            for (int host = 0; host < 2; host++) {
+                x.on(host, 1 + host);
+                Check.claim(x, host, "n" + host);
+            }
+            x.go(10000);
+            x.on(2, 3);
+            Check.give(x, first, nprobe("n" + first, 9, 9));
+            Check.give(x, 1 - first, nprobe("n" + (1 - first), 9, 9));
+            x.go(0);
+            CHECK.same("1.: the first one sent", x.entry(2, 0, 1), 257 * (1 + first));
+            CHECK.same("1.: the one behind it", x.entry(2, 1, 1), 257 * (2 - first));
         }
     }
 
@@ -666,5 +685,15 @@ final class HostEdgesTest {
             CHECK.same("3.: three probes", x.count(7), probes + 3);
             CHECK.sent("3.: told with the new address", x, Check.answer(Check.recordOfName(1, 120000, "n", 4350)));
         }
+        // The name and its number are not forgotten with the address.
+        CableNames x = named(700);
+        Check.give(x, 0, record(1, "n", 1));
+        Check.give(x, 0, rival);
+        Check.give(x, 0, rival);
+        x.go(648);
+        CHECK.named("3.: it probes the name that it had", x, 0, "n-2");
+        Check.give(x, 0, record(1, "n-2", 257));
+        CHECK.named("3.: the number is one more", x, 0, "n-3");
+        CHECK.same("3.: conflicts of names and addresses", x.look(0, 5), 3);
     }
 }

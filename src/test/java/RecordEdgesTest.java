@@ -31,6 +31,7 @@ final class RecordEdgesTest {
         askedOnceEach();
         questionIsOpenThen();
         dyingAsksNoMore();
+        dyingIsFound();
         CHECK.done();
     }
 
@@ -621,5 +622,23 @@ final class RecordEdgesTest {
         CHECK.same("5.: it lives again, not yet", x.count(8), asks + 1);
         x.go(1);
         CHECK.same("5.: at 80 again", x.count(8), asks + 2);
+    }
+
+    private static void dyingIsFound() {
+        CableNames x = host(1);
+        Check.ask(x, 0, 1, "q");
+        hear(x, 0, 9000, "q", 1);
+        hear(x, 0, 9000, "q", 2);
+        hear(x, 0, 0, "q", 1);
+        CHECK.same("17: one that is dying is in the cache still", x.answers(0, 0), 2);
+        CHECK.same("18: the end of the dying one", x.found(0, 0, 0, 1), 1000);
+        CHECK.same("18: the end of the other one", x.found(0, 0, 1, 1), 9000);
+        x.go(999);
+        CHECK.same("17: one ahead of its end", x.answers(0, 0), 2);
+        CHECK.same("18: its end less now", x.found(0, 0, 0, 1), 1);
+        x.go(1);
+        CHECK.same("17: at its end", x.answers(0, 0), 1);
+        CHECK.same("18: the other one is the first one", x.found(0, 0, 0, 0), 2);
+        CHECK.same("18: none behind it", x.found(0, 0, 1, 0), NONE);
     }
 }
