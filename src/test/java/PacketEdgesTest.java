@@ -25,6 +25,7 @@ final class PacketEdgesTest {
         twoHundredBytes();
         nothingOfAnUnreadableOne();
         theVeryWordIsWritten();
+        wordsOfAnotherPacket();
         CHECK.done();
     }
 
@@ -356,5 +357,24 @@ final class PacketEdgesTest {
         y.go(31);
         CHECK.sent("6.: the name is the word of the ASK", y, 4, 2, 1, 'q', 4, 130, 0, 1, 1, 'Q', 0, 2, 130, 0, 3,
             128 + 8, 0, 4);
+    }
+
+    /** The ASK at 2371 has words at 2, 5 and 21; in the ANSWER at 2394 a port like a word stands at 21. */
+    private static void wordsOfAnotherPacket() {
+        CableNames x = host();
+        Check.claim(x, 0, "n");
+        Check.service(x, 0, "a", 1 << 8 | 'b');
+        Check.service(x, 0, "b", 9);
+        x.go(2340);
+        Check.give(x, 0, Check.answer(Check.recordOfType(0, 9000, "q", "thirteen-sign", 1),
+            Check.recordOfType(0, 9000, "q", "z", 2)));
+        Check.ask(x, 0, 2, "q");
+        x.go(31);
+        CHECK.sent("6.: the one ahead", x, Check.join(b(4, 2, 1, 'q', 2), Check.word("thirteen-sign"),
+            b(0, 1, 1, 'z', 0, 2)));
+        x.go(23);
+        int[] head = Check.join(b(2, 0), Check.four(120000));
+        CHECK.sent("6.: its places are none of this one", x, Check.join(b(5, 3),
+            Check.recordOfName(1, 120000, "n", 257), head, b(1, 'a', 128 + 8, 1, 'b'), head, b(1, 'b', 128 + 8, 0, 9)));
     }
 }
