@@ -2,6 +2,7 @@ import java.lang.reflect.Constructor;
 import java.lang.reflect.Field;
 import java.lang.reflect.Method;
 import java.lang.reflect.Modifier;
+import java.util.NoSuchElementException;
 import java.util.Set;
 import java.util.TreeSet;
 
@@ -33,6 +34,8 @@ final class FaceTest {
             check.yes("public: " + method, Modifier.isPublic(method.getModifiers()));
         }
         check.same("methods of the document that are missing " + due, due.size(), 0);
+        lookAtThrows(check, face);
+        lookAtNone(check, face);
         for (Method method : face.getDeclaredMethods()) {
             if (Modifier.isPrivate(method.getModifiers())) {
                 check.no("a private method has a public one's name: " + method, names.contains(method.getName()));
@@ -52,6 +55,26 @@ final class FaceTest {
         check.yes("the constructor is public", Modifier.isPublic(made[0].getModifiers()));
         check.same("the constructor's arguments", made[0].getParameterCount(), 0);
         check.done();
+    }
+
+    private static void lookAtThrows(Check check, Class<?> face) {
+        for (Method method : face.getDeclaredMethods()) {
+            Set<Class<?>> told = Set.of(method.getExceptionTypes());
+            Set<Class<?>> due = method.getName().equals("look")
+                ? Set.of(IndexOutOfBoundsException.class, NoSuchElementException.class) : Set.of();
+            check.yes("says just what it throws: " + method, told.equals(due));
+        }
+    }
+
+    private static void lookAtNone(Check check, Class<?> face) {
+        int open = Modifier.PUBLIC | Modifier.STATIC | Modifier.FINAL;
+        int found = 0;
+        for (Field field : face.getDeclaredFields()) {
+            if (field.getName().equals("NONE") && field.getModifiers() == open && field.getType() == int.class) {
+                found++;
+            }
+        }
+        check.same("public static final int NONE", found, 1);
     }
 
     private static String written(Method method) {

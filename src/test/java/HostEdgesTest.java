@@ -23,6 +23,7 @@ final class HostEdgesTest {
         greaterAndLesserIds();
         tenSecondsAgo();
         whatIsNoDefence();
+        defenceOfAnotherAddress();
         addressBeginsAnew();
         nameWaitsAndProbes();
         remaindersOfNameProbes();
@@ -466,6 +467,21 @@ final class HostEdgesTest {
         x.go(1);
         Check.give(x, 0, claimed(2, 257, 9));
         CHECK.same("2.: 10000 ago, whatever it told since", x.look(0, 3), 0);
+    }
+
+    /** "It did so by an ATELL never" is said of the host: a defence of the address that it left counts. */
+    private static void defenceOfAnotherAddress() {
+        for (int at : new int[] {1279, 10630, 10631}) {
+            CableNames x = host(1, 631);
+            Check.give(x, 0, claimed(2, 257, 9));
+            Check.give(x, 0, claimed(2, 257, 9));
+            x.go(at - 631);
+            CHECK.same("2.: it holds another address at " + at, x.look(0, 2), 4350);
+            int told = x.count(6);
+            Check.give(x, 0, claimed(2, 4350, 9));
+            CHECK.same("2.: told at " + at, x.count(6) - told, at < 10631 ? 0 : 1);
+            CHECK.same("2.: tries at " + at, x.look(0, 3), at < 10631 ? 2 : 1);
+        }
     }
 
     private static void addressBeginsAnew() {

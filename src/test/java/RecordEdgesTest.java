@@ -15,6 +15,7 @@ final class RecordEdgesTest {
         longestAsk();
         withinAHundred();
         savedComesLater();
+        sameQuestionTwice();
         toldInTheAsk();
         sortAndWordOfTheAsk();
         remaindersOfReplies();
@@ -23,6 +24,7 @@ final class RecordEdgesTest {
         nothingToReply();
         twentyFourEntries();
         oneThatIsThere();
+        writingOfOneThatIsThere();
         lifeNoughtAndOne();
         endAheadOfThat();
         beganMoreThanASecondAhead();
@@ -250,6 +252,24 @@ final class RecordEdgesTest {
         CHECK.same("4.: one that isn't open saves nothing", x.look(0, 10), 0);
     }
 
+    /** Questions of id 1 from 0 and 60 on are due at 31 and 91, then 1000 later; another's ASK counts for each. */
+    private static void sameQuestionTwice() {
+        for (int at : new int[] {930, 931, 990, 991, 1030}) {
+            CableNames x = host(1);
+            Check.ask(x, 0, 1, "q");
+            x.go(60);
+            CHECK.same("4.: a second one alike", Check.ask(x, 0, 1, "Q"), 1);
+            goTo(x, at);
+            CHECK.same("4.: both asked", x.count(8), 2);
+            Check.give(x, 0, asked(1, "q"));
+            CHECK.same("4.: saved at " + at, x.look(0, 10), at < 931 ? 0 : at < 991 ? 1 : 2);
+            goTo(x, 1091);
+            CHECK.same("4.: asks by 1091", x.count(8), at < 931 ? 4 : at < 991 ? 3 : 2);
+            goTo(x, 3091);
+            CHECK.same("4.: asks by 3091", x.count(8), at < 931 ? 6 : at < 991 ? 5 : 4);
+        }
+    }
+
     private static void toldInTheAsk() {
         // Id 2 has the address 514.
         int[][] addresses = {{0, 1}, {1, 2, 1, 1}, {1, 2, 2, 0}, {1, 2, 3, 1}};
@@ -420,6 +440,19 @@ final class RecordEdgesTest {
         CHECK.same("5.: one ahead of its end", x.entry(0, 0, 6), 1);
         x.go(1);
         CHECK.same("5.: at its end it goes", x.entry(0, 0, 1), 2);
+    }
+
+    /** Heard again it begins anew, and nothing else of it changes: its words are as they came. */
+    private static void writingOfOneThatIsThere() {
+        CableNames x = host(1);
+        Check.give(x, 0, Check.answer(Check.recordOfType(0, 9000, "type", "ab", 7)));
+        Check.give(x, 0, Check.answer(Check.recordOfType(0, 8000, "TYPE", "AB", 7)));
+        CHECK.same("5.: one entry", x.look(0, 8), 1);
+        CHECK.same("5.: of the life told last", x.entry(0, 0, 2), 8000);
+        Check.ask(x, 0, 2, "Type");
+        x.go(31);
+        CHECK.sent("5.: told as it came", x,
+            asked(2, "Type", Check.join(Check.bytes(1), Check.word("ab"), Check.pair(7))));
     }
 
     private static void lifeNoughtAndOne() {
